@@ -836,7 +836,8 @@ public final class GingerArmy {
         int leftWithSugar(Shelf from, int sugar, int n) {
             shelf.copyFrom(from);
             shelf.nourish(sugar, from.heat);
-            return leftBehind(n);
+            shelf.pass(n);
+            return Integer.bitCount(shelf.whole);
         }
 
         int bestSugar(Shelf from, int n) {

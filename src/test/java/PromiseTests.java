@@ -416,6 +416,9 @@ public final class PromiseTests {
         due("0: 8 and 6", y.bottleOf(0, 3), 14);
         due("1: 11", y.bottleOf(1, 3), 11);
         due("2: 11, 6 by 1, 6 by 0", y.bottleOf(2, 3), 23);
+        // All eight in one day, each by its own press.
+        GingerArmy w = told("b0000;b0001;b0002;b0003;b0004;b0005;b0006;b0007;d06;");
+        due("none of eight", w.count(4), 0);
         // All shocks are held at 99 too.
         GingerArmy z = told("u00;b2000;b3901;b3902;p090;p199;p299;");
         due("days(1)", z.days(1), 1);
@@ -660,6 +663,7 @@ public final class PromiseTests {
         due("refusals", 100 * x.count(14) + x.count(16), 101);
         GingerArmy y = told("b2000;b0005;b0010;p110;p210;");
         due("of two the least", y.out(1), 1);
+        due("let out to nothing", told("u50;b0000;p003;").out(2), 0);
         due("none", new GingerArmy().out(60), -9);
     }
 
@@ -701,6 +705,7 @@ public final class PromiseTests {
         due("feedFor(2, 18)", x.feedFor(2, 18), 2);
         due("feedFor(2, 19)", x.feedFor(2, 19), -9);
         due("all stays", x.count(2), 2);
+        due("as it is", told("b2000;p099;").feedFor(0, 99), 0);
         x.feeds(1, 4);
         // With heat a STONE rises 1 by no sugar and 10 by 9.
         due("feedFor(0, 30)", x.feedFor(0, 30), 0);
@@ -726,6 +731,7 @@ public final class PromiseTests {
         due("refusals", 100 * x.count(14) + x.count(16), 101);
         GingerArmy y = told("b0000;b0401;b2003;");
         due("the one that helps", y.move(6), 12);
+        due("both are moved", told("b2014;b0000;b0401;").move(6), 1);
         due("none helps", told("b0000;b0401;").move(6), -9);
         due("none is there", new GingerArmy().move(60), -9);
     }
@@ -815,6 +821,10 @@ public final class PromiseTests {
         due("two burst", x.two(0, 1, 61), -6);
         due("refusals", 1000000 * x.count(11) + 10000 * x.count(14) + 100 * x.count(16) + x.count(13), 3010201);
         due("both must be let out", told("b0000;b0010;p010;p110;").two(0, 1, 1), 11);
+        // The first goes at once and shocks the other to 14, or is let out and gets the other's shock but if both are let out.
+        due("the other's choice rests on the one's", told("u30;b0900;b1102;p025;p128;").two(0, 1, 4), 11);
+        due("none has it better alone", told("u30;b0400;b0402;p028;p108;").two(0, 1, 4), 0);
+        due("the other alone", told("u20;b1300;b1502;b1104;p004;p129;p216;").two(0, 1, 4), 1);
         GingerArmy y = told("b2000;b0010;p099;p199;d01;");
         due("the other is burst", y.two(0, 1, 1), -3);
         due("the one is burst", y.two(1, 0, 1), -3);
@@ -1017,6 +1027,8 @@ public final class PromiseTests {
         rows(x, 14, 13, 8);
         due("the second", x.judge(), 1);
         due("the row has none", x.count(7), 0);
+        rows(x, 13, 14, 7);
+        due("the first", x.judge(), 0);
         rows(x, 14, 14, 7, 0);
         due("none there", x.judge(), 3);
         rows(x, 14);

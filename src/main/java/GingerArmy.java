@@ -419,7 +419,7 @@ public final class GingerArmy {
 
         static int rises(int kind, int figure, int sugar, int heat) {
             int bottle = sugar + heat / 2;
-            int stone = Math.max(0, bottle - 1);
+            int stone = bottle > 0 ? bottle - 1 : 0;
             int raisin = stone + figure / 3;
             switch (kind) {
                 case 0: return bottle;
@@ -692,6 +692,7 @@ public final class GingerArmy {
         private static final int HEATS = 10;
         private static final int STAYING = 5;
         private static final int BOTH_CHOICES = 4;
+        private static final int ALL_BUT_SIGN = 0x7fffffff;
 
         private final Shelf shelf = new Shelf();
         private final int[] oneWants = new int[BOTH_CHOICES];
@@ -1012,7 +1013,7 @@ public final class GingerArmy {
                 shelf.copyFrom(from);
                 for (int d = 0; d < SUMMER_DAYS; d++) {
                     z = z * 1103515245 + 12345;
-                    shelf.nourish(from.sugar, (z & Integer.MAX_VALUE) / 65536 % HEATS);
+                    shelf.nourish(from.sugar, (z & ALL_BUT_SIGN) / 65536 % HEATS);
                     shelf.dayGoesBy();
                 }
                 sum += what == 0 ? Integer.bitCount(shelf.whole) : shelf.pressOfWhole();

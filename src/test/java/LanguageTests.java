@@ -26,6 +26,7 @@ public final class LanguageTests {
     private static final String[] FORBIDDEN_WORDS = {
         "throw", "throws", "try", "catch", "finally", "synchronized", "assert", "import", "package", "equals", "hashCode",
         "toString", "native", "volatile", "transient", "lambda", "var", "yield", "Object", "Exception", "Random", "Thread"};
+    private static final String[] LIBRARY = {"Integer.bitCount", "Math.abs", "Math.max", "Math.min", "System.arraycopy"};
     private static final int LONGEST_METHOD = 60;
     private static final int MOST_PARAMETERS = 7;
     private static final int MOST_FIELDS = 20;
@@ -118,6 +119,13 @@ public final class LanguageTests {
         Check.holds("no text", code.indexOf('"') < 0);
         Check.holds("no static block", !Pattern.compile("static\\s*\\{").matcher(code).find());
         Check.holds("no loop without a bound", !Pattern.compile("\\b(while|do)\\b|for\\s*\\(\\s*;").matcher(code).find());
+        Set<String> library = new TreeSet<>();
+        Matcher m = Pattern.compile("\\b(Integer|Long|Math|System|Arrays|String|StringBuilder|List|ArrayList)\\.\\w+").matcher(code);
+        while (m.find()) {
+            library.add(m.group());
+        }
+        library.removeAll(Set.of(LIBRARY));
+        Check.holds("the listed library alone, but " + library, library.isEmpty());
         boolean plain = true;
         for (int i = 0; i < code.length(); i++) {
             plain &= code.charAt(i) == '\n' || code.charAt(i) >= ' ' && code.charAt(i) <= '~';

@@ -1,10 +1,5 @@
 /** For each promise its ordinary answers, its edges and its refusals, worked out by hand. */
-public final class PromiseTests {
-    private static final int EASED = 1000000000;
-    private static final long LONG = 4000000000000000000L;
-    private static final int LOW = Integer.MIN_VALUE;
-    private static final int HIGH = Integer.MAX_VALUE;
-
+public final class PromiseTests extends Cellars {
     private PromiseTests() {
     }
 
@@ -59,31 +54,6 @@ public final class PromiseTests {
         p43Restore();
         p44Count();
         Check.close();
-    }
-
-    private static void due(String call, long got, long want) {
-        Check.due(call, got, want);
-    }
-
-    /** Feeds the letters of a text and tells the cellar. */
-    private static int tell(GingerArmy x, String text) {
-        for (int i = 0; i < text.length(); i++) {
-            due("feed of '" + text + "' at " + i, x.feed(text.charAt(i)), i + 1);
-        }
-        return x.cellar();
-    }
-
-    private static GingerArmy told(String text) {
-        GingerArmy x = new GingerArmy();
-        Check.holds("a cellar '" + text + "' without fault", tell(x, text) > 0);
-        return x;
-    }
-
-    private static void rows(GingerArmy x, int... numbers) {
-        x.clear();
-        for (int i = 0; i < numbers.length; i++) {
-            due("row of " + numbers[i], x.row(numbers[i]), i + 1);
-        }
     }
 
     /** A BOTTLE of 5 (bears 15) at 0 and one of 9 (bears 19) at 2, pressing 14 each behind 7 days. */

@@ -7,7 +7,9 @@ import java.nio.charset.StandardCharsets;
 import java.nio.file.Files;
 import java.nio.file.Path;
 import java.util.Arrays;
+import java.util.Map;
 import java.util.Set;
+import java.util.TreeMap;
 import java.util.TreeSet;
 import java.util.regex.Matcher;
 import java.util.regex.Pattern;
@@ -31,6 +33,9 @@ public final class LanguageTests {
     private static final int MOST_PARAMETERS = 7;
     private static final int MOST_FIELDS = 20;
     private static final int MOST_CLASSES = 12;
+    private static final int DEEPEST_CALLS = 8;
+    private static final Pattern METHOD_HEAD = Pattern.compile(
+        "^( {4}| {8})\\w[\\w\\[\\] ]* (\\w+)\\(.*\\) \\{$|^( {4}| {8})(?:public )?(\\w+)\\(\\) \\{$");
 
     private LanguageTests() {
     }
@@ -42,6 +47,7 @@ public final class LanguageTests {
         theClasses();
         theWords(withoutComments(source));
         theMethodsLengths(source);
+        theDepth(source);
         theRoom(withoutComments(source));
         Check.close();
     }
@@ -135,20 +141,56 @@ public final class LanguageTests {
 
     private static void theMethodsLengths(String source) {
         String[] lines = source.split("\n");
-        Pattern head = Pattern.compile("^( {4}| {8})\\w[\\w\\[\\] ]* \\w+\\(.*\\) \\{$|^( {4}| {8})(public )?\\w+\\(\\) \\{$");
         int methods = 0;
         for (int from = 0; from < lines.length; from++) {
-            Matcher m = head.matcher(lines[from]);
-            if (!m.matches()) continue;
+            if (!METHOD_HEAD.matcher(lines[from]).matches()) continue;
             methods++;
-            String indent = lines[from].startsWith("        ") ? "        " : "    ";
-            int to = from;
-            while (to < lines.length && !lines[to].equals(indent + "}")) {
-                to++;
-            }
-            Check.holds("a short method: " + lines[from].trim() + " " + (to - from + 1), to - from < LONGEST_METHOD);
+            int long_ = endOfMethod(lines, from) - from + 1;
+            Check.holds("a short method: " + lines[from].trim() + " " + long_, long_ <= LONGEST_METHOD);
         }
         Check.holds("the methods are seen: " + methods, methods >= FACE.length);
+    }
+
+    private static int endOfMethod(String[] lines, int from) {
+        String end = (lines[from].startsWith("        ") ? "        " : "    ") + "}";
+        int to = from;
+        while (to < lines.length - 1 && !lines[to].equals(end)) {
+            to++;
+        }
+        return to;
+    }
+
+    /** How deep calls stand, methods of one name in two classes taken as one that makes all the calls of both. */
+    private static void theDepth(String source) {
+        String[] lines = source.split("\n");
+        Map<String, Set<String>> calls = new TreeMap<>();
+        for (int from = 0; from < lines.length; from++) {
+            Matcher m = METHOD_HEAD.matcher(lines[from]);
+            if (!m.matches()) continue;
+            String name = m.group(2) != null ? m.group(2) : m.group(4);
+            String body = String.join("\n", Arrays.copyOfRange(lines, from + 1, endOfMethod(lines, from) + 1));
+            Set<String> called = calls.computeIfAbsent(name, key -> new TreeSet<>());
+            Matcher word = Pattern.compile("\\b(\\w+)\\(").matcher(withoutComments(body));
+            while (word.find()) {
+                called.add(word.group(1));
+            }
+        }
+        int deepest = 0;
+        for (String name : calls.keySet()) {
+            deepest = Math.max(deepest, depth(name, calls, 1));
+        }
+        Check.holds("no recursion, and calls at most " + DEEPEST_CALLS + " deep: " + deepest, deepest <= DEEPEST_CALLS);
+        Check.holds("the calls are followed: " + deepest, deepest > DEEPEST_CALLS / 2);
+    }
+
+    private static int depth(String name, Map<String, Set<String>> calls, int level) {
+        int deepest = level;
+        // A ring of calls is told as deep as that.
+        if (level > 2 * DEEPEST_CALLS) return deepest;
+        for (String called : calls.get(name)) {
+            if (calls.containsKey(called)) deepest = Math.max(deepest, depth(called, calls, level + 1));
+        }
+        return deepest;
     }
 
     /** Rows and shelves are made with the object alone, so no call makes any. */
